@@ -25,10 +25,18 @@ final class Due {
 
     /** The very class is asked for: what the machine throws is often of a class below it. */
     static void throwsIt(String call, Class<? extends RuntimeException> due, Runnable made) {
-        Class<?> got = thrownBy(made);
+        sameClass(call, thrownBy(made), due);
+    }
+
+    /** A class told as null stands for a call that throws nothing. */
+    static void sameClass(String call, Class<?> got, Class<?> due) {
         if (got != due) {
-            tell(call + (got == null ? " threw nothing" : " threw " + got.getName()) + ", due is " + due.getName());
+            tell(call + " threw " + name(got) + ", due is " + name(due));
         }
+    }
+
+    private static String name(Class<?> thrown) {
+        return thrown == null ? "nothing" : thrown.getName();
     }
 
     static void index(String call, Runnable made) {
@@ -41,6 +49,10 @@ final class Due {
 
     static void state(String call, Runnable made) {
         throwsIt(call, IllegalStateException.class, made);
+    }
+
+    static long number(boolean answer) {
+        return answer ? 1 : 0;
     }
 
     static Class<?> thrownBy(Runnable made) {

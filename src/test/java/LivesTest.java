@@ -25,7 +25,7 @@ public final class LivesTest {
         Due.same("deed(" + deed + ", 5)", x.deed(deed, 5), pots.length);
     }
 
-    /** The pairs are told one behind the other. */
+    /** The pairs are told one behind the other. An object answers for 512 calls, and 256 are made here. */
     private static void clashing(String run, HookColours x, int... pairs) {
         for (int a = 0; a < 16; a++) {
             for (int b = 0; b < 16; b++) {
@@ -36,6 +36,14 @@ public final class LivesTest {
                 Due.same(run + ": clash(" + a + ", " + b + ")", x.clash(a, b), due);
             }
         }
+    }
+
+    private static HookColours wanting(int... pots) {
+        HookColours x = new HookColours();
+        for (int pot : pots) {
+            x.want(pot, true);
+        }
+        return x;
     }
 
     private static void chain() {
@@ -118,8 +126,12 @@ public final class LivesTest {
         z.want(2, true);
         z.want(3, true);
         clashing("poured, but for that", z);
-        z.cook(3, 2, 2, 1);
-        clashing("used up ahead of all", z, 2, 3);
+        HookColours a = new HookColours();
+        a.pour(2, 3, 1);
+        a.want(2, true);
+        a.want(3, true);
+        a.pour(3, 2, 1);
+        clashing("poured to and fro", a);
     }
 
     private static void aheadOfAll() {
@@ -132,13 +144,10 @@ public final class LivesTest {
     }
 
     private static void withoutDeeds() {
-        HookColours x = new HookColours();
-        clashing("none", x);
-        x.want(0, true);
-        clashing("one wanted", x);
-        x.want(15, true);
-        x.want(6, true);
-        clashing("wanted without deeds", x, 0, 15, 0, 6, 6, 15);
+        clashing("none", wanting());
+        clashing("one wanted", wanting(0));
+        clashing("wanted without deeds", wanting(0, 15, 6), 0, 15, 0, 6, 6, 15);
+        HookColours x = wanting(0, 15, 6);
         x.want(15, false);
         clashing("not wanted any more", x, 0, 6);
     }
