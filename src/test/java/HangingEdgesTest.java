@@ -17,7 +17,9 @@ public final class HangingEdgesTest {
         partnerPouredFrom();
         partnersHookBeforeASmaller();
         partnerNoMore();
+        firstPotAsPartner();
         smallestOfSeveralPartners();
+        smallestOfSeveralInEitherDirection();
         smallestOfThoseAtWhichItCouldHang();
         partnerThatClashes();
         partnerNotHungYet();
@@ -254,6 +256,59 @@ public final class HangingEdgesTest {
             pots("both, way " + way, x, 3, 1, -1, -1, -1, 1, 0, 0);
             Due.same("both, way " + way + ": count(7)", x.count(7), 1);
         }
+    }
+
+    /**
+     * The 0 clashes with 2 to 5 and is put aside behind 1 to 4, so that it hangs at the hook 1, and 2 to 5 at 0. The 1,
+     * which clashes with none, follows the 0 if it is poured with it.
+     */
+    private static void firstPotAsPartner() {
+        for (int way = 0; way < 3; way++) {
+            HookColours x = Kitchens.wanting(0);
+            x.setHooks(2);
+            switch (way) {
+                case 0 -> {
+                    x.cook(1, -1, -1, 1);
+                    x.cook(0, 1, -1, 1);
+                }
+                case 1 -> {
+                    x.cook(1, -1, -1, 1);
+                    x.pour(0, 1, 1);
+                }
+                default -> {
+                    x.cook(0, -1, -1, 1);
+                    x.pour(1, 0, 1);
+                }
+            }
+            for (int pot = 2; pot <= 5; pot++) {
+                x.cook(pot, -1, -1, 1);
+            }
+            String run = "the first pot, way " + way;
+            pots(run, x, 2, 4, 0, 1, 1, 1, 1);
+            aside(run, x, 1, 2, 3, 4, 0, 5);
+            pots(run, x, 3, 1, way == 0 ? 0 : 1, 0, 0, 0, 0);
+            Due.same(run + ": count(7)", x.count(7), way == 0 ? 0 : 1);
+        }
+    }
+
+    /** The 0 is poured into 4 and 5, or from them, in any order; each time the 4, which hangs at 1, counts. */
+    private static void smallestOfSeveralInEitherDirection() {
+        for (int way = 0; way < 8; way++) {
+            HookColours x = fourAndFive();
+            int first = (way & 1) == 0 ? 4 : 5;
+            pourWithZero(x, first, (way & 2) == 0);
+            pourWithZero(x, 9 - first, (way & 4) == 0);
+            String run = "either direction, way " + way;
+            pots(run, x, 2, 0, 0, 0, 0, 1, 1, 0);
+            pots(run, x, 3, 1, -1, -1, -1, 1, 0, 0);
+            Due.same(run + ": count(6)", x.count(6), 2);
+            Due.same(run + ": count(7)", x.count(7), 1);
+        }
+    }
+
+    private static void pourWithZero(HookColours x, int pot, boolean intoZero) {
+        x.cook(intoZero ? pot : 0, -1, -1, 1);
+        x.pour(intoZero ? 0 : pot, intoZero ? pot : 0, 2);
     }
 
     /**

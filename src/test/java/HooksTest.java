@@ -241,6 +241,11 @@ public final class HooksTest {
         x.cook(8, 5, 6, 1);
         x.cook(8, 7, -1, 1);
         Due.same("crowd() in between", x.crowd(), 5);
+        HookColours first = new HookColours();
+        first.cook(0, -1, 7, 1);
+        first.want(7, true);
+        first.cook(1, 0, 7, 1);
+        Due.same("crowd() behind the first", first.crowd(), 2);
         HookColours y = new HookColours();
         y.cook(0, -1, -1, 1);
         y.cook(1, -1, -1, 1);
